@@ -548,7 +548,7 @@ public final class MergeVault {
         /** No queue is negative. */
         private static final long NO_QUEUE = -1;
 
-        /** For each element, the ones that go before it, 2^element for each. */
+        /** For each member of the queue being merged, the ones that go before it, 2^element for each. */
         private final int[] before = new int[Queue.ELEMENTS];
 
         /** X becomes the merging; answers FINE or the conflict, x then being of no more use. */
@@ -621,10 +621,12 @@ public final class MergeVault {
             if (size > Queue.MOST) {
                 return NO_QUEUE;
             }
-            // What goes before an element is merged as members are: in all three, or new in x or y.
+            // What goes before a member is found as members are: in all three, or new in x or in y.
             for (int element = 0; element < Queue.ELEMENTS; element++) {
-                before[element] = mergedSet(Queue.standingBefore(b, element),
-                        Queue.standingBefore(x, element), Queue.standingBefore(y, element));
+                if (isIn(left, element)) {
+                    before[element] = mergedSet(Queue.standingBefore(b, element),
+                            Queue.standingBefore(x, element), Queue.standingBefore(y, element));
+                }
             }
             long queue = 0;
             for (int place = 0; place < size; place++) {

@@ -13,6 +13,7 @@ public final class BaseTest {
         conflictOfTheBase(new Run(due, "conflict of the base"), 10);
         conflictOfTheBaseComesFirst(new Run(due, "conflict of the base comes first"));
         queueConflictOfTheBase(new Run(due, "queue conflict of the base"));
+        conflictOfADeeperBase(new Run(due, "conflict of a deeper base"));
         depth(new Run(due, "depth"), 100);
         depth(new Run(due, "depth"), -7);
         due.end();
@@ -93,8 +94,11 @@ public final class BaseTest {
         run.merge(2, 0, next + 6);
     }
 
-    /** Commits 1 and 2 clash; each is merged with one that has come round to it. */
-    private static void conflictOfTheBase(Run run, int what) {
+    /**
+     * Commits 1 and 2 over 0 clash; 3 over 1 and 4 over 2 have come round to the other one. Commit 5
+     * of 3 and 2 and commit 6 of 4 and 1 are the heads of branches 2 and 3.
+     */
+    private static void clashingMeets(Run run, int what) {
         run.change(0, 0, 1, 0);
         run.fork(0, 1, true);
         run.change(0, what, 1, 1);
@@ -106,6 +110,10 @@ public final class BaseTest {
         run.merge(1, 2, 5);
         run.merge(0, 3, 6);
         run.meets(5, 6, 1, 2);
+    }
+
+    private static void conflictOfTheBase(Run run, int what) {
+        clashingMeets(run, what);
         run.merge(2, 3, CONFLICT - (what == 2 ? 2 : 6));
         run.merge(3, 2, CONFLICT - (what == 2 ? 2 : 6));
         run.head(2, 5);
@@ -118,16 +126,7 @@ public final class BaseTest {
     }
 
     private static void conflictOfTheBaseComesFirst(Run run) {
-        run.change(0, 0, 1, 0);
-        run.fork(0, 1, true);
-        run.change(0, 10, 1, 1);
-        run.change(1, 10, 2, 2);
-        run.fork(0, 2, true);
-        run.fork(1, 3, true);
-        run.change(2, 10, 2, 3);
-        run.change(3, 10, 1, 4);
-        run.merge(1, 2, 5);
-        run.merge(0, 3, 6);
+        clashingMeets(run, 10);
         // Plain, an earlier cell, clashes in the merging itself.
         run.change(2, 2, 5, 7);
         run.change(3, 2, 6, 8);
@@ -152,6 +151,27 @@ public final class BaseTest {
         run.queue(8, 1, 2);
         run.meets(7, 8, 2, 4);
         run.merge(3, 2, CONFLICT - 4);
+    }
+
+    /**
+     * Commits 5 and 6 have clashing meets, 1 and 2, but 8 and 10 join them over other meets, so that
+     * only the base of the base of 8 and 10 is a conflict.
+     */
+    private static void conflictOfADeeperBase(Run run) {
+        clashingMeets(run, 2);
+        run.swap(0, 1, 4, true);
+        run.fork(2, 1, true);
+        run.merge(0, 1, 7);
+        run.merge(3, 1, 8);
+        run.swap(0, 4, 3, true);
+        run.merge(0, 3, 9);
+        run.merge(2, 3, 10);
+        run.meets(7, 6, 1, 4);
+        run.meets(9, 5, 2, 3);
+        run.meets(8, 10, 5, 6);
+        run.merge(3, 1, CONFLICT - 2);
+        run.merge(1, 3, CONFLICT - 2);
+        run.commits(11);
     }
 
     /**
