@@ -10,7 +10,6 @@ public final class BranchTest {
         watch(new Run(due, "watch"));
         events(new Run(due, "events"));
         onlyOtherHeadsAreEvents(new Run(due, "only other heads are events"));
-        logIsFull(new Run(due, "the log is full"));
         due.end();
     }
 
@@ -150,29 +149,5 @@ public final class BranchTest {
         run.swap(0, 0, 2, false);
         run.fork(0, 4, false);
         run.log(4, 5, 8, 13);
-    }
-
-    private static void logIsFull(Run run) {
-        run.change(0, 0, 1, 0);
-        run.change(0, 0, 1, 1);
-        run.watch(0, true, true);
-        for (int i = 0; i < 100; i++) {
-            run.events(i);
-            run.swap(0, 1 - i % 2, i % 2, true);
-        }
-        run.events(100);
-        run.event(0, 4);
-        run.event(99, 8);
-        run.event(100, BAD);
-        run.swap(0, 1, -1, true);
-        run.head(0, BAD);
-        run.events(100);
-        run.event(0, 4);
-        run.event(99, 8);
-        run.event(100, BAD);
-        run.watch(1, true, true);
-        run.change(1, 0, 1, 2);
-        run.events(100);
-        run.event(99, 8);
     }
 }

@@ -1,20 +1,15 @@
 /** Promise 2: change. */
 public final class ChangeTest {
     private static final int BAD = MergeVault.BAD;
-    private static final int FULL = MergeVault.FULL;
     private static final int UNFIT = MergeVault.UNFIT;
 
     public static void main(String[] args) {
         Due due = new Due("ChangeTest");
         everyChange(new Run(due, "every change"));
-        numbersAreCutAndWrap(new Run(due, "numbers are cut and wrap"));
         headAndParent(new Run(due, "head and parent"));
         theSet(new Run(due, "the set"));
         theQueue(new Run(due, "the queue"));
         theOption(new Run(due, "the option"));
-        bounds(new Run(due, "bounds"));
-        refusalsChangeNothing(new Run(due, "refusals change nothing"));
-        orderOfRefusals(new Run(due, "the order of refusals"));
         due.end();
     }
 
@@ -41,26 +36,6 @@ public final class ChangeTest {
         run.queue(7, 10, 11);
         run.change(1, 1, -3, 13);
         run.values(13, 5, -3, 14, 7, 512, 1, 0, 0, 13, 14);
-    }
-
-    private static void numbersAreCutAndWrap(Run run) {
-        run.change(0, 0, Long.MAX_VALUE, 0);
-        run.change(0, 0, 2, 1);
-        run.value(1, 0, Long.MIN_VALUE + 1);
-        run.change(0, 1, 4294967301L, 2);
-        run.value(2, 1, 5);
-        run.change(0, 1, 2147483648L, 3);
-        run.value(3, 1, Integer.MIN_VALUE);
-        run.change(0, 2, -2147483649L, 4);
-        run.value(4, 3, Integer.MAX_VALUE);
-        run.change(0, 7, Long.MIN_VALUE, 5);
-        run.change(0, 7, -1, 6);
-        run.value(6, 6, Long.MAX_VALUE);
-        run.change(0, 9, Long.MIN_VALUE, 7);
-        run.change(0, 9, Long.MIN_VALUE, 8);
-        run.value(8, 8, 0);
-        run.change(0, 10, 0x123456789ABCDEFL, 9);
-        run.value(9, 9, 0x89ABCDEF);
     }
 
     private static void headAndParent(Run run) {
@@ -140,65 +115,5 @@ public final class ChangeTest {
         run.change(0, 8, 0, UNFIT);
         run.change(0, 7, 3, 4);
         run.value(4, 6, 3);
-    }
-
-    private static void bounds(Run run) {
-        run.change(-1, 0, 0, BAD);
-        run.change(4, 0, 0, BAD);
-        run.change(Integer.MIN_VALUE, 0, 0, BAD);
-        run.change(Integer.MAX_VALUE, 0, 0, BAD);
-        run.change(0, -1, 0, BAD);
-        run.change(0, 11, 0, BAD);
-        run.change(0, Integer.MIN_VALUE, 0, BAD);
-        run.change(0, Integer.MAX_VALUE, 0, BAD);
-        for (int what = 3; what <= 4; what++) {
-            run.change(0, what, -1, BAD);
-            run.change(0, what, 32, BAD);
-            run.change(0, what, 4294967296L, BAD);
-            run.change(0, what, Long.MIN_VALUE, BAD);
-        }
-        run.change(0, 5, -1, BAD);
-        run.change(0, 5, 16, BAD);
-        run.change(0, 5, 4294967296L, BAD);
-        run.change(0, 5, Long.MAX_VALUE, BAD);
-        run.commits(0);
-        run.change(3, 10, 0, 0);
-        run.change(0, 3, 31, 1);
-        run.change(0, 5, 15, 2);
-    }
-
-    private static void refusalsChangeNothing(Run run) {
-        run.watch(0, true, true);
-        run.change(0, 3, 2, 0);
-        run.change(0, 3, 2, UNFIT);
-        run.change(0, 4, 3, UNFIT);
-        run.change(0, 3, 32, BAD);
-        run.change(0, 6, 0, UNFIT);
-        run.change(0, 8, 0, UNFIT);
-        run.commits(1);
-        run.head(0, 0);
-        run.log(4);
-        run.change(0, 1, 9, 1);
-        run.time(1, 2);
-        run.values(1, 0, 9, 2, 0, 4, 0, 0, 0, 0, 0);
-    }
-
-    private static void orderOfRefusals(Run run) {
-        run.change(0, 3, 1, 0);
-        run.fillUp(0, 1, 60);
-        run.watch(0, true, true);
-        run.change(0, 0, 1, FULL);
-        run.change(1, 0, 1, FULL);
-        run.change(0, 3, 1, UNFIT);
-        run.change(0, 4, 2, UNFIT);
-        run.change(0, 6, 0, UNFIT);
-        run.change(0, 8, 0, UNFIT);
-        run.change(0, 4, 1, FULL);
-        run.change(0, 5, 16, BAD);
-        run.change(4, 3, 1, BAD);
-        run.commits(60);
-        run.head(0, 59);
-        run.head(1, BAD);
-        run.log();
     }
 }

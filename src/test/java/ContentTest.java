@@ -59,46 +59,31 @@ public final class ContentTest {
     }
 
     private static void hash(Run run) {
-        long queue = 0;
         int[] elements = {15, 0, 4, 9, 1, 2, 3, 14};
-        for (int i = elements.length - 1; i >= 0; i--) {
-            queue = queue * 32 + 1 + elements[i];
-        }
+        long queue = Hash.queue(elements);
         long[] hashes = new long[19];
-        hashes[0] = hashOf(0, 1, -5, 0, 0, 0, 0, 0, 0, 0, 0, 0);
-        hashes[1] = hashOf(1, hashes[0], 2, -5, -6, 2, 0, 0, 0, 0, 0, 0, 0);
-        hashes[2] = hashOf(1, hashes[1], 3, -5, -6, 2, -7, 0, 0, 0, 0, 0, 0);
-        hashes[3] = hashOf(1, hashes[2], 4, -5, -6, 2, -7, 1, 0, 0, 0, 0, 0);
-        hashes[4] = hashOf(1, hashes[3], 5, -5, -6, 2, -7, 2147483649L, 0, 0, 0, 0, 0);
+        hashes[0] = Hash.of(0, 1, -5, 0, 0, 0, 0, 0, 0, 0, 0, 0);
+        hashes[1] = Hash.of(1, hashes[0], 2, -5, -6, 2, 0, 0, 0, 0, 0, 0, 0);
+        hashes[2] = Hash.of(1, hashes[1], 3, -5, -6, 2, -7, 0, 0, 0, 0, 0, 0);
+        hashes[3] = Hash.of(1, hashes[2], 4, -5, -6, 2, -7, 1, 0, 0, 0, 0, 0);
+        hashes[4] = Hash.of(1, hashes[3], 5, -5, -6, 2, -7, 2147483649L, 0, 0, 0, 0, 0);
         long below = 1;
         for (int i = 0; i < elements.length; i++) {
             below *= 32;
-            hashes[5 + i] = hashOf(1, hashes[4 + i], 6 + i, -5, -6, 2, -7, 2147483649L, queue % below, 0, 0, 0, 0);
+            hashes[5 + i] = Hash.of(1, hashes[4 + i], 6 + i, -5, -6, 2, -7, 2147483649L, queue % below, 0, 0, 0, 0);
         }
-        hashes[13] = hashOf(1, hashes[12], 14, -5, -6, 2, -7, 2147483649L, queue, 1, -8, 0, 0);
-        hashes[14] = hashOf(1, hashes[13], 15, -5, -6, 2, -7, 2147483649L, queue, 1, -8, -9, 0);
-        hashes[15] = hashOf(1, hashes[14], 16, -5, -6, 2, -7, 2147483649L, queue, 1, -8, -9, -10);
-        hashes[16] = hashOf(1, hashes[15], 17, -5, -6, 2, -7, 2147483649L, queue, 0, 0, -9, -10);
-        hashes[17] = hashOf(0, 18, 100, 0, 0, 0, 0, 0, 0, 0, 0, 0);
-        hashes[18] = hashOf(2, hashes[16], hashes[17], 19, 95, -6, 2, -7, 2147483649L, queue, 0, 0, -9, -10);
+        hashes[13] = Hash.of(1, hashes[12], 14, -5, -6, 2, -7, 2147483649L, queue, 1, -8, 0, 0);
+        hashes[14] = Hash.of(1, hashes[13], 15, -5, -6, 2, -7, 2147483649L, queue, 1, -8, -9, 0);
+        hashes[15] = Hash.of(1, hashes[14], 16, -5, -6, 2, -7, 2147483649L, queue, 1, -8, -9, -10);
+        hashes[16] = Hash.of(1, hashes[15], 17, -5, -6, 2, -7, 2147483649L, queue, 0, 0, -9, -10);
+        hashes[17] = Hash.of(0, 18, 100, 0, 0, 0, 0, 0, 0, 0, 0, 0);
+        hashes[18] = Hash.of(2, hashes[16], hashes[17], 19, 95, -6, 2, -7, 2147483649L, queue, 0, 0, -9, -10);
         for (int commit = 0; commit < hashes.length; commit++) {
             run.hash(commit, hashes[commit]);
         }
         for (int commit : NO_COMMITS) {
             run.hash(commit, 0);
         }
-    }
-
-    private static long hashOf(long... words) {
-        long h = -3750763034362895579L;
-        for (long word : words) {
-            for (int i = 0; i < 8; i++) {
-                long oneByte = Math.floorMod(word, 256L);
-                h = (h ^ oneByte) * 1099511628211L;
-                word = Math.floorDiv(word, 256L);
-            }
-        }
-        return h;
     }
 
     /** From the runs that came with the document, so that the words above are not all that counts. */

@@ -8,6 +8,11 @@ final class Due {
         this.test = test;
     }
 
+    /** A run of its own for a sentence of the document, which is told with every wrong answer. */
+    Run of(String sentence) {
+        return new Run(this, "\"" + sentence + "\"");
+    }
+
     void is(String call, long got, long want) {
         asked++;
         if (got != want) {

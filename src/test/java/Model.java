@@ -400,29 +400,18 @@ final class Model {
             for (int what = 0; what <= 4; what++) {
                 words.add(value(version.number, what));
             }
-            long queue = 0;
-            for (int place = version.content.queue.size() - 1; place >= 0; place--) {
-                queue = queue * 32 + 1 + version.content.queue.get(place);
-            }
-            words.add(queue);
+            words.add(Hash.queue(numbers(version.content.queue)));
             words.add(value(version.number, 7));
             words.add(value(version.number, 6));
             words.add(value(version.number, 8));
             words.add(value(version.number, 9));
-            hashes[version.number] = hashOf(words);
+            hashes[version.number] = Hash.of(words.stream().mapToLong(Long::longValue).toArray());
         }
         return hashes;
     }
 
-    private static long hashOf(List<Long> words) {
-        long h = -3750763034362895579L;
-        for (long word : words) {
-            for (int i = 0; i < 8; i++) {
-                h = (h ^ Math.floorMod(word, 256L)) * 1099511628211L;
-                word = Math.floorDiv(word, 256L);
-            }
-        }
-        return h;
+    private static int[] numbers(List<Integer> row) {
+        return row.stream().mapToInt(Integer::intValue).toArray();
     }
 
     int events() {

@@ -2,16 +2,28 @@ import java.util.Arrays;
 
 /** A run of calls on a new object; the last argument of each is the answer that is due. */
 final class Run {
+    private static final int MOST_CALLS = 512;
+
     private final Due due;
     private final String name;
     private final MergeVault vault = new MergeVault();
+    private int calls;
 
     Run(Due due, String name) {
         this.due = due;
         this.name = name;
     }
 
+    /** For what is asked beside the run; such calls are not counted here. */
+    MergeVault vault() {
+        return vault;
+    }
+
     private void is(String method, long got, long want, Object... arguments) {
+        calls++;
+        if (calls == MOST_CALLS + 1) {
+            due.holds(name + ": that a run has no more calls than the document answers for", false);
+        }
         String inside = Arrays.toString(arguments);
         due.is(name + ": " + method + "(" + inside.substring(1, inside.length() - 1) + ")", got, want);
     }
@@ -82,6 +94,36 @@ final class Run {
 
     void event(int i, int want) {
         is("event", vault.event(i), want, i);
+    }
+
+    /** Has a commit become the head of a branch, whatever it was; -1 for none. */
+    void put(int branch, int commit) {
+        int now = vault.head(branch);
+        calls++;
+        swap(branch, now, commit, true);
+    }
+
+    /** Merges two commits by way of branches 2 and 3; the head of 2, ours, stays if that is refused. */
+    void mergeCommits(int ours, int theirs, int want) {
+        put(2, ours);
+        put(3, theirs);
+        merge(3, 2, want);
+    }
+
+    /** Merges branches 0 and 1 both ways, by way of 2, so that their heads come to be the meets. */
+    void cross(int next) {
+        fork(0, 2, true);
+        merge(1, 0, next);
+        merge(2, 1, next + 1);
+    }
+
+    /** How many more calls the document answers for. */
+    int callsLeft() {
+        return MOST_CALLS - calls;
+    }
+
+    void holdsNoMoreCalls() {
+        due.is(name + ": calls that are left", callsLeft(), 0);
     }
 
     /** The ten values of a commit, by their numbers. */
