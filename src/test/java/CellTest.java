@@ -98,38 +98,42 @@ public final class CellTest {
     private static void queues(Due due) {
         int[] none = {};
         queue(due, none, none, none, none);
-        queue(due, none, Cells.row(3, 1), none, Cells.row(3, 1));
-        queue(due, none, none, Cells.row(3, 1), Cells.row(3, 1));
+        queue(due, none, row(3, 1), none, row(3, 1));
+        queue(due, none, none, row(3, 1), row(3, 1));
         // Nothing tells the order of 5 and 2: the least first.
-        queue(due, none, Cells.row(5), Cells.row(2), Cells.row(2, 5));
-        queue(due, none, Cells.row(5, 1), Cells.row(2), Cells.row(2, 5, 1));
-        queue(due, none, Cells.row(9, 0), Cells.row(4, 0), Cells.row(4, 9, 0));
-        queue(due, none, Cells.row(0, 15), Cells.row(0, 14), Cells.row(0, 14, 15));
+        queue(due, none, row(5), row(2), row(2, 5));
+        queue(due, none, row(5, 1), row(2), row(2, 5, 1));
+        queue(due, none, row(9, 0), row(4, 0), row(4, 9, 0));
+        queue(due, none, row(0, 15), row(0, 14), row(0, 14, 15));
         // What one side took out is gone.
-        queue(due, Cells.row(1, 2, 3), Cells.row(2, 3), Cells.row(1, 2, 3), Cells.row(2, 3));
-        queue(due, Cells.row(1, 2, 3), Cells.row(3), Cells.row(2, 3, 0), Cells.row(3, 0));
-        queue(due, Cells.row(1), none, Cells.row(1, 4), Cells.row(4));
-        queue(due, Cells.row(7, 2), Cells.row(7, 2, 1), Cells.row(7, 2, 0), Cells.row(7, 2, 0, 1));
+        queue(due, row(1, 2, 3), row(2, 3), row(1, 2, 3), row(2, 3));
+        queue(due, row(1, 2, 3), row(3), row(2, 3, 0), row(3, 0));
+        queue(due, row(1), none, row(1, 4), row(4));
+        queue(due, row(7, 2), row(7, 2, 1), row(7, 2, 0), row(7, 2, 0, 1));
         // One of both was not in the base: the order of the side counts.
-        queue(due, Cells.row(5), Cells.row(5, 3), Cells.row(5), Cells.row(5, 3));
+        queue(due, row(5), row(5, 3), row(5), row(5, 3));
         // A side that turns two round is followed, and both that do it alike.
-        queue(due, Cells.row(1, 2), Cells.row(1, 2, 0), Cells.row(2, 1), Cells.row(2, 1, 0));
-        queue(due, Cells.row(1, 2), Cells.row(2, 1), Cells.row(1, 2), Cells.row(2, 1));
-        queue(due, Cells.row(1, 2), Cells.row(2, 1), Cells.row(2, 1), Cells.row(2, 1));
-        queue(due, Cells.row(1, 2, 3), Cells.row(3, 1, 2), Cells.row(2, 3, 1), Cells.row(3, 2, 1));
-        queue(due, Cells.row(6, 5, 4), Cells.row(4, 6, 5), Cells.row(6, 5, 4), Cells.row(4, 6, 5));
-        queue(due, Cells.row(6, 5, 4), Cells.row(4, 6, 5), Cells.row(5, 4, 6), Cells.row(4, 5, 6));
+        queue(due, row(1, 2), row(1, 2, 0), row(2, 1), row(2, 1, 0));
+        queue(due, row(1, 2), row(2, 1), row(1, 2), row(2, 1));
+        queue(due, row(1, 2), row(2, 1), row(2, 1), row(2, 1));
+        queue(due, row(1, 2, 3), row(3, 1, 2), row(2, 3, 1), row(3, 2, 1));
+        queue(due, row(6, 5, 4), row(4, 6, 5), row(6, 5, 4), row(4, 6, 5));
+        queue(due, row(6, 5, 4), row(4, 6, 5), row(5, 4, 6), row(4, 5, 6));
         // Rounds, at once or behind some that can be taken.
-        queue(due, none, Cells.row(1, 2), Cells.row(2, 1), null);
-        queue(due, Cells.row(1, 2, 3), Cells.row(2, 1, 3), Cells.row(1, 3, 2), null);
-        queue(due, none, Cells.row(1, 2, 3), Cells.row(3, 1), null);
-        queue(due, none, Cells.row(0, 1, 2), Cells.row(2, 1), null);
-        queue(due, none, Cells.row(1, 2), Cells.row(2, 0), Cells.row(1, 2, 0));
+        queue(due, none, row(1, 2), row(2, 1), null);
+        queue(due, row(1, 2, 3), row(2, 1, 3), row(1, 3, 2), null);
+        queue(due, none, row(1, 2, 3), row(3, 1), null);
+        queue(due, none, row(0, 1, 2), row(2, 1), null);
+        queue(due, none, row(1, 2), row(2, 0), row(1, 2, 0));
         // Eight have room, nine have not, though no queue had more than five.
-        queue(due, none, Cells.row(9, 8, 7, 6), Cells.row(5, 4, 3, 2), Cells.row(5, 4, 3, 2, 9, 8, 7, 6));
-        queue(due, none, Cells.row(9, 8, 7, 6, 1), Cells.row(5, 4, 3, 2), null);
-        queue(due, Cells.row(0), Cells.row(0, 9, 8, 7, 6), Cells.row(0, 5, 4, 3, 2), null);
-        queue(due, Cells.row(0), Cells.row(9, 8, 7, 6), Cells.row(0, 5, 4, 3, 2), Cells.row(5, 4, 3, 2, 9, 8, 7, 6));
+        queue(due, none, row(9, 8, 7, 6), row(5, 4, 3, 2), row(5, 4, 3, 2, 9, 8, 7, 6));
+        queue(due, none, row(9, 8, 7, 6, 1), row(5, 4, 3, 2), null);
+        queue(due, row(0), row(0, 9, 8, 7, 6), row(0, 5, 4, 3, 2), null);
+        queue(due, row(0), row(9, 8, 7, 6), row(0, 5, 4, 3, 2), row(5, 4, 3, 2, 9, 8, 7, 6));
+    }
+
+    private static int[] row(int... elements) {
+        return elements;
     }
 
     private static void queue(Due due, int[] b, int[] x, int[] y, int[] want) {

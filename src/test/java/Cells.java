@@ -11,10 +11,6 @@ final class Cells {
     private Cells() {
     }
 
-    static int[] row(int... elements) {
-        return elements;
-    }
-
     /** What is 0 for the counter, 9 for the pair's long. */
     static void longs(Due due, String name, int what, long b, long x, long y, long want) {
         Run run = new Run(due, name + " " + b + ", " + x + ", " + y);
@@ -137,8 +133,7 @@ final class Cells {
                 run.change(1, 2, 2, next + 1);
             }
             case 4 -> {
-                putIn(run, 1, row(2, 1), putIn(run, 0, row(1, 2), next));
-                return next + 4;
+                return putIn(run, 1, new int[] {2, 1}, putIn(run, 0, new int[] {1, 2}, next));
             }
             case 5 -> {
                 run.change(0, 7, 1, next);

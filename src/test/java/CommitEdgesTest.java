@@ -150,6 +150,11 @@ public final class CommitEdgesTest {
         run.merge(1, 0, 7);
         run.change(1, 0, 1, 8);
         run.meets(7, 8, 6);
+        // Neither the first nor the second parent of a meet is one.
+        run.fork(0, 1, true);
+        run.change(0, 0, 1, 9);
+        run.change(1, 0, 1, 10);
+        run.meets(9, 10, 7);
     }
 
     private static void oneIsTheOthersAncestor(Run run) {

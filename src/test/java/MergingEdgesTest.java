@@ -215,7 +215,7 @@ public final class MergingEdgesTest {
     }
 
     private static int[] row(int... elements) {
-        return Cells.row(elements);
+        return elements;
     }
 
     private void optionBothAbsent(String name) {

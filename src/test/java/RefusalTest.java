@@ -237,5 +237,10 @@ public final class RefusalTest {
             answers.add((long) vault.change(branch, 1, 2));
             answers.add((long) vault.merge(branch, (branch + 1) % 4));
         }
+        // A commit without a parent shows the empty tree.
+        int head = vault.head(0);
+        answers.add((long) head);
+        answers.add(number(vault.swap(0, head, -1)));
+        answers.add((long) vault.change(0, 0, 0));
     }
 }
