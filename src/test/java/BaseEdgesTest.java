@@ -10,15 +10,7 @@ public final class BaseEdgesTest {
         oneMeet(due.of("it begins with the tree of l(0)"));
         oneAfterTheOther(due.of("for l(1), l(2), .. one after the other"), 2, 10);
         oneAfterTheOther(due.of("for l(1), l(2), .. one after the other"), 10, 2);
-        for (int brought : new int[] {100, -7, 1}) {
-            depthOfCounters(due.of("for depth less than 4"), brought);
-        }
-        for (int depth = 0; depth < 4; depth++) {
-            depthOfConflict(due.of("for depth less than 4"), depth, 2, CONFLICT - 2);
-            depthOfConflict(due.of("for depth less than 4"), depth, 10, CONFLICT - 6);
-        }
-        treeOfTheFirstMeet(due.of("for depth less than 4"), 2, 3);
-        treeOfTheFirstMeet(due.of("for depth less than 4"), 10, 9);
+        baseOfTheFirstAndEach(due.of("the base of l(0) and l(i) at depth + 1"));
         intConflict(due.of("If one of these is a conflict, so is the base, at the same cell"), 2);
         intConflict(due.of("If one of these is a conflict, so is the base, at the same cell"), 10);
         queueConflict(due.of("If one of these is a conflict, so is the base, at the same cell"));
@@ -109,69 +101,33 @@ public final class BaseEdgesTest {
     }
 
     /**
-     * Commits 1 and 2 over 0, then pairs (3, 4), (5, 6) .. that each merge the pair below both ways.
-     * The pair (11, 12) has 1 and 2 five pairs below it, where depth 4 has the tree of 1 alone: what
-     * 2 has brought is missing there, and counted once too often in the end.
+     * Of the meets 1, 3 and 4, the last two are over 2, and the first with each of them over 0. What 2
+     * has brought is thus twice in the base, and missing in the end.
      */
-    private static void depthOfCounters(Run run, int brought) {
+    private static void baseOfTheFirstAndEach(Run run) {
         run.change(0, 0, 1, 0);
-        run.fork(0, 1, true);
         run.change(0, 0, 10, 1);
-        run.change(1, 0, brought, 2);
-        for (int pair = 3; pair <= 11; pair += 2) {
-            run.cross(pair);
-            run.value(pair, 0, 11 + brought);
-            run.value(pair + 1, 0, 11 + brought);
-            run.meets(pair, pair + 1, pair - 2, pair - 1);
-        }
-        run.merge(1, 0, 13);
-        run.value(13, 0, 11 + 2 * brought);
-    }
-
-    /**
-     * Pairs of commits (4, 6), (8, 10), .. (4 * k + 4, 4 * k + 6), each the meets of the next, and 1
-     * and 2, which clash, the meets of the first. So the base of pair k has a conflict at depth k. A
-     * pair can't be merged for the next one, but each of it with one that the other was made from.
-     */
-    private static void layClashBelow(Run run, int pairs, int what) {
-        ClashingMeets.lay(run, what);
-        for (int last = 6; last <= 4 * pairs + 2; last += 4) {
-            run.mergeCommits(last - 2, last - 1, last + 1);
-            run.mergeCommits(last + 1, last, last + 2);
-            run.mergeCommits(last, last - 3, last + 3);
-            run.mergeCommits(last + 3, last - 2, last + 4);
-        }
-    }
-
-    private static void depthOfConflict(Run run, int depth, int what, int want) {
-        layClashBelow(run, depth, what);
-        int last = 4 * depth + 6;
-        run.meets(4, 6, 1, 2);
-        for (int higher = 10; higher <= last; higher += 4) {
-            run.meets(higher - 2, higher, higher - 6, higher - 4);
-        }
-        run.commits(last + 1);
-        run.mergeCommits(last - 2, last, want);
-    }
-
-    /**
-     * At depth 4 the base of 4 and 6 is the tree of 1, with 1, and no conflict. The first of each pair
-     * but the lowest has 1 and the second one 2 (4 has 2 and 6 has 1), so that the bases above are 2,
-     * 1, 2, 1 in turn, and the merging of 1 and 2 over 1 is 2.
-     */
-    private static void treeOfTheFirstMeet(Run run, int what, int value) {
-        depthOfConflict(run, 4, what, 23);
-        run.value(4, value, 2);
-        run.value(6, value, 1);
-        for (int second = 10; second <= 22; second += 4) {
-            run.value(second - 2, value, 1);
-            run.value(second, value, 2);
-        }
-        run.value(23, value, 2);
+        run.put(0, 0);
+        run.change(0, 0, 100, 2);
+        run.change(0, 0, 1000, 3);
+        run.put(0, 2);
+        run.change(0, 0, 10000, 4);
+        run.mergeCommits(1, 3, 5);
+        run.mergeCommits(5, 4, 6);
+        run.mergeCommits(4, 3, 7);
+        run.mergeCommits(7, 1, 8);
+        run.value(6, 0, 11111);
+        run.value(8, 0, 11111);
+        run.meets(6, 8, 1, 3, 4);
+        run.meets(3, 4, 2);
+        run.mergeCommits(6, 8, 9);
+        run.value(9, 0, 11011);
+        run.mergeCommits(8, 6, 10);
+        run.value(10, 0, 11011);
     }
 
     private static void intConflict(Run run, int what) {
-        layClashBelow(run, 0, what);
+        ClashingMeets.lay(run, what);
         int conflict = CONFLICT - (what == 2 ? 2 : 6);
         run.mergeCommits(4, 6, conflict);
         run.mergeCommits(6, 4, conflict);
@@ -218,7 +174,7 @@ public final class BaseEdgesTest {
     }
 
     private static void baseBeforeMerging(Run run) {
-        layClashBelow(run, 0, 10);
+        ClashingMeets.lay(run, 10);
         // Plain, an earlier cell, clashes in the merging itself.
         run.put(0, 4);
         run.change(0, 2, 5, 7);

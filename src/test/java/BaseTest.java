@@ -7,6 +7,8 @@ public final class BaseTest {
         twoMeets(new Run(due, "two meets"));
         threeMeets(new Run(due, "three meets"));
         threeMeetsOverTheEmptyTree(new Run(due, "three meets over the empty tree"));
+        everyCell(new Run(due, "every cell of two meets"));
+        optionGoneInOneMeet(new Run(due, "an option gone in one of two meets"));
         due.end();
     }
 
@@ -48,6 +50,39 @@ public final class BaseTest {
         run.change(1, 10, 80, 6);
         run.merge(1, 0, 7);
         run.values(7, 0, 0, 0, 70, 0, 0, 0, 0, 0, 80);
+    }
+
+    /** What both meets have brought is in the base, so that it comes in but once and can go again. */
+    private static void everyCell(Run run) {
+        run.changes(0, new long[][] {{0, 1}, {3, 0}, {3, 1}, {5, 1}, {7, 10}, {9, 5}}, 0);
+        run.fork(0, 1, true);
+        run.changes(0, new long[][] {{0, 10}, {4, 0}, {3, 2}, {5, 2}, {7, 1}, {9, 1}, {2, 7}}, 6);
+        run.changes(1, new long[][] {{0, 100}, {3, 3}, {5, 3}, {7, 5}, {9, 2}, {10, 8}}, 13);
+        run.cross(19);
+        run.meets(19, 20, 12, 18);
+        for (int merged = 19; merged <= 20; merged++) {
+            run.values(merged, 111, 0, 0, 7, 2 + 4 + 8, 3, 16, 1, 8, 8);
+            run.queue(merged, 1, 2, 3);
+        }
+        // On branch 0 the set is 1, 2 and the queue 2; on branch 1 they are 1, 3 and 3.
+        run.changes(0, new long[][] {{0, 1000}, {4, 3}, {6, 0}, {6, 0}, {6, 0}, {5, 2}, {7, 20}, {9, 30}, {2, 70}}, 21);
+        run.changes(1, new long[][] {{4, 2}, {6, 0}, {6, 0}, {7, 300}, {9, 400}, {10, 80}}, 30);
+        run.merge(1, 0, 36);
+        run.values(36, 1111, 0, 0, 70, 2, 0, 336, 1, 438, 80);
+    }
+
+    private static void optionGoneInOneMeet(Run run) {
+        run.change(0, 7, 10, 0);
+        run.fork(0, 1, true);
+        run.change(0, 0, 1, 1);
+        run.change(1, 8, 0, 2);
+        run.cross(3);
+        run.meets(3, 4, 1, 2);
+        // Over the 10 of commit 1 this would be a conflict.
+        run.change(0, 7, 3, 5);
+        run.merge(1, 0, 6);
+        run.value(6, 6, 3);
+        run.value(6, 7, 1);
     }
 
     private static void threeMeets(Run run) {

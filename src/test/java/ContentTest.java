@@ -11,6 +11,7 @@ public final class ContentTest {
         queued(run);
         hash(run);
         knownHash(new Run(due, "known hash"));
+        oldTreesStay(new Run(due, "old trees stay"));
         due.end();
     }
 
@@ -84,6 +85,18 @@ public final class ContentTest {
         for (int commit : NO_COMMITS) {
             run.hash(commit, 0);
         }
+    }
+
+    private static void oldTreesStay(Run run) {
+        run.changes(0, new long[][] {{0, 4}, {5, 3}, {7, 2}, {3, 1}}, 0);
+        long hash = run.vault().hash(3);
+        run.changes(0, new long[][] {{6, 0}, {8, 0}, {4, 1}, {1, 5}, {2, 6}, {9, 7}, {10, 8}}, 4);
+        run.fillUp(0, 11, 60);
+        run.values(3, 4, 0, 0, 0, 2, 1, 2, 1, 0, 0);
+        run.queue(3, 3);
+        run.hash(3, hash);
+        run.values(0, 4, 0, 0, 0, 0, 0, 0, 0, 0, 0);
+        run.values(59, 4, 5, 8, 6, 0, 0, 0, 0, 7, 8);
     }
 
     /** From the runs that came with the document, so that the words above are not all that counts. */

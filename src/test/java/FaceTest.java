@@ -56,7 +56,7 @@ public final class FaceTest {
         }
     }
 
-    private static String signature(Method method) {
+    static String signature(Method method) {
         String parameters = Arrays.toString(method.getParameterTypes());
         return method.getReturnType() + " " + method.getName() + "("
                 + parameters.substring(1, parameters.length() - 1) + ")";

@@ -8,6 +8,7 @@ public final class LogEdgesTest {
         sameHead(due.of("an EVENT for each time that the head of a watched branch became another commit or none"));
         noneAsBefore(due.of("an EVENT for each time that the head of a watched branch became another commit or none"));
         unwatched(due.of("an EVENT for each time that the head of a watched branch became another commit or none"));
+        watchedByItself(due.of("A branch may be WATCHED"));
         refused(due.of("an EVENT for each time that the head of a watched branch became another commit or none"));
         hundred(due.of("at most 100 events, later ones are not written"));
         hundredOfAllBranches(due.of("at most 100 events, later ones are not written"));
@@ -82,6 +83,29 @@ public final class LogEdgesTest {
         run.fork(0, 1, true);
         run.watch(0, true, true);
         run.log(5);
+    }
+
+    /** Watching belongs to the branch: it neither goes along with a head nor gets lost with one. */
+    private static void watchedByItself(Run run) {
+        run.watch(0, true, true);
+        run.change(0, 0, 1, 0);
+        run.fork(0, 1, true);
+        run.change(1, 0, 1, 1);
+        run.merge(0, 2, 0);
+        run.merge(1, 2, 1);
+        run.change(2, 0, 1, 2);
+        run.put(3, 0);
+        run.change(3, 0, 1, 3);
+        run.log(4);
+        run.fork(1, 0, true);
+        run.merge(2, 0, 2);
+        run.merge(3, 0, 4);
+        run.fork(0, 3, true);
+        run.put(0, -1);
+        run.put(0, 3);
+        run.change(0, 0, 1, 5);
+        run.change(3, 0, 1, 6);
+        run.log(4, 8, 12, 20, 0, 16, 24);
     }
 
     private static void refused(Run run) {

@@ -47,14 +47,14 @@ final class Model {
         List<Version> parents = new ArrayList<>();
         int time;
         Content content;
+        /** Kept, as they stay what they are and are asked for often. */
+        private Set<Version> found;
 
         Set<Version> ancestors() {
-            Set<Version> found = new HashSet<>();
-            List<Version> open = new ArrayList<>(List.of(this));
-            while (!open.isEmpty()) {
-                Version next = open.remove(open.size() - 1);
-                if (found.add(next)) {
-                    open.addAll(next.parents);
+            if (found == null) {
+                found = new HashSet<>(Set.of(this));
+                for (Version parent : parents) {
+                    found.addAll(parent.ancestors());
                 }
             }
             return found;
@@ -186,7 +186,7 @@ final class Model {
     }
 
     private static List<Version> meets(Version c, Version d) {
-        Set<Version> common = c.ancestors();
+        Set<Version> common = new HashSet<>(c.ancestors());
         common.retainAll(d.ancestors());
         List<Version> meets = new ArrayList<>();
         for (Version one : common) {

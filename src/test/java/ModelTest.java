@@ -8,13 +8,17 @@ public final class ModelTest {
 
     /** What the changes of a run are about: everything, or a few things that get in each other's way. */
     private static final int[][] WHATS = {
-        {0, 1, 2, 3, 4, 5, 6, 7, 8, 9, 10}, {5, 5, 6}, {0, 7, 7, 8}, {0, 1, 3, 4, 5, 6, 9}, {2, 2, 10}
+        {0, 1, 2, 3, 4, 5, 6, 7, 8, 9, 10}, {5, 5, 6}, {0, 7, 7, 8}, {0, 1, 3, 4, 5, 6, 9}, {2, 2, 10}, {3, 4}
     };
+
+    /** Of so many runs, one has pairs of commits over pairs, for the bases of their meets. */
+    private static final int LADDERS = 3;
 
     private final Due due;
     private final Random random;
     private final String name;
     private final int kind;
+    private final boolean ladder;
     private final MergeVault vault = new MergeVault();
     private final Model model = new Model();
 
@@ -23,6 +27,7 @@ public final class ModelTest {
         this.random = new Random(seed);
         this.name = "run " + seed;
         this.kind = seed % WHATS.length;
+        this.ladder = seed / WHATS.length % LADDERS == 0;
     }
 
     public static void main(String[] args) {
@@ -60,10 +65,10 @@ public final class ModelTest {
     }
 
     private void run() {
-        for (int i = 0; i < CALLS; i++) {
+        for (int i = ladder ? climb() : 0; i < CALLS; i++) {
             int dice = random.nextInt(100);
             if (dice < 32) {
-                change();
+                change(branch());
             } else if (dice < 38) {
                 fork(branch(), branch());
             } else if (dice < 48) {
@@ -97,8 +102,7 @@ public final class ModelTest {
         return rarely() ? odd() : random.nextInt(model.commits() + 1);
     }
 
-    private void change() {
-        int branch = branch();
+    private void change(int branch) {
         int what = rarely() ? odd() : WHATS[kind][random.nextInt(WHATS[kind].length)];
         long x;
         if (rarely()) {
@@ -106,7 +110,7 @@ public final class ModelTest {
         } else if (what == 2 || what == 7 || what == 10) {
             x = random.nextInt(3);
         } else {
-            x = random.nextInt(kind == 1 ? 6 : 17);
+            x = random.nextInt(kind == 1 || kind == 5 ? 4 : 17);
         }
         is("change(" + branch + ", " + what + ", " + x + ")",
                 vault.change(branch, what, x), model.change(branch, what, x));
@@ -130,13 +134,32 @@ public final class ModelTest {
 
     /** Merges two branches both ways, so that they come to have two meets, one pair over another. */
     private int crossMerge() {
-        int one = random.nextInt(4);
+        cross(random.nextInt(4));
+        return 2;
+    }
+
+    private void cross(int one) {
         int other = (one + 1) % 4;
         int kept = (one + 2) % 4;
         fork(one, kept);
         merge(other, one);
         merge(kept, other);
-        return 2;
+    }
+
+    /** Branches 0 and 1 are changed a little and merged both ways, again and again; counts the calls. */
+    private int climb() {
+        int calls = 2;
+        change(0);
+        fork(0, 1);
+        for (int step = 0; step < 12; step++) {
+            int changes = 1 + random.nextInt(3);
+            for (int i = 0; i < changes; i++) {
+                change(random.nextInt(2));
+            }
+            cross(0);
+            calls += changes + 3;
+        }
+        return calls;
     }
 
     private void watch() {

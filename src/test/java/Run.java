@@ -160,6 +160,16 @@ final class Run {
         meet(c, d, wants.length, MergeVault.BAD);
     }
 
+    /** Makes a commit for each row, of what and x; answers the number that comes next. */
+    int changes(int branch, long[][] rows, int from) {
+        int next = from;
+        for (long[] row : rows) {
+            change(branch, (int) row[0], row[1], next);
+            next++;
+        }
+        return next;
+    }
+
     /** Makes commits on a branch by growing its counter by 0, until there are so many. */
     void fillUp(int branch, int from, int until) {
         for (int number = from; number < until; number++) {
