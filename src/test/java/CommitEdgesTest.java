@@ -1,11 +1,26 @@
+import java.util.List;
+import java.util.function.Consumer;
+
 /** COMMITS, ANCESTORS and MEETS, and promises 8 to 11 and 14: a run for each sentence on an edge. */
 public final class CommitEdgesTest {
     private static final int BAD = MergeVault.BAD;
     private static final int FULL = MergeVault.FULL;
 
+    /** Each call of the face, with its answer in the object of sameCall, which it leaves as it is. */
+    private static final List<Consumer<Run>> CALLS = List.of(
+            run -> run.change(1, 6, 0, MergeVault.UNFIT), run -> run.fork(0, 2, true),
+            run -> run.swap(0, 1, 1, true), run -> run.merge(0, 2, 1), run -> run.watch(0, true, true),
+            run -> run.head(0, 1), run -> run.commits(2), run -> run.parent(1, 0, 0),
+            run -> run.ancestors(1, 2), run -> run.meet(1, 0, 0, 0), run -> run.value(1, 5, 1),
+            run -> run.queued(1, 0, 3), run -> run.time(1, 2), run -> run.events(1), run -> run.event(0, 8),
+            run -> run.hash(0, Hash.of(0, 1, 0, 0, 0, 0, 0, 4, 0, 0, 0, 0)));
+
     public static void main(String[] args) {
         Due due = new Due("CommitEdgesTest");
         wholeLife(due.of("An object is used for at most 512 calls after it has been made"));
+        for (Consumer<Run> call : CALLS) {
+            sameCall(due.of("An object is used for at most 512 calls after it has been made"), call);
+        }
         numbered(due.of("COMMITS are numbered 0, 1, .. as they are made"));
         sixtyByChange(due.of("at most 60"));
         sixtyByMerge(due.of("at most 60"));
@@ -45,6 +60,16 @@ public final class CommitEdgesTest {
         run.time(59, 60);
         run.commits(60);
         run.holdsNoMoreCalls();
+    }
+
+    private static void sameCall(Run run, Consumer<Run> call) {
+        run.change(0, 5, 3, 0);
+        run.watch(0, true, true);
+        run.change(0, 0, 1, 1);
+        run.fork(0, 2, true);
+        while (run.callsLeft() > 0) {
+            call.accept(run);
+        }
     }
 
     private static void numbered(Run run) {
